@@ -410,7 +410,7 @@ public final class HiringFairs {
         }
 
         boolean isBarred(int master, int servant) {
-            return (barred[master] & 1 << servant) != 0;
+            return (barred[master] & (1 << servant)) != 0;
         }
 
         void setBar(int master, int servant, boolean is) {
@@ -597,7 +597,7 @@ public final class HiringFairs {
         }
 
         private boolean hasAsked(int master, int servant) {
-            return (asked[master] & 1 << servant) != 0;
+            return (asked[master] & (1 << servant)) != 0;
         }
 
         int countBound() {

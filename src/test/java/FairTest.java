@@ -252,11 +252,16 @@ public final class FairTest {
             x.servant(0, 5, 10);
             x.master(0, 60);
         }
+        CHECK.due("all torn ahead", x.torn(), 100);
+        CHECK.due("the last of them", x.pair(99), 99);
+        CHECK.due("none behind it", x.pair(100), HiringFairs.NONE);
         x.go(240);
         // Master i asks i bound servants in vain, then its own: 1 + 2 + .. + 10.
         CHECK.due("bargains of ten and ten", x.bargains(), 55);
         CHECK.due("all bound", x.total(2), 10);
         CHECK.due("all wages", x.total(5), 290);
+        CHECK.due("all at work", x.hands(0, 363), 10);
+        CHECK.due("the last one's wages", x.owes(9, 363), 348);
         row(x, 54, 9, 9, 9, 29, 1, HiringFairs.NONE);
         HiringFairs y = new HiringFairs();
         for (int i = 0; i < 10; i++) {

@@ -252,6 +252,8 @@ public final class PeopleTest {
         like.servant(0, 1, 20);
         like.servant(0, 9, 20);
         CHECK.due("next, of like ones the lesser", like.next(0), 0);
+        CHECK.due("next, 10 a number: 50 less 29 is 60 less 39", nextOfFiveAndSix(27), 0);
+        CHECK.due("next, 10 a number: 50 less 29 is below 60 less 38", nextOfFiveAndSix(26), 1);
         HiringFairs low = new HiringFairs();
         low.master(0, 90);
         low.servant(0, 9, 60);
@@ -261,6 +263,16 @@ public final class PeopleTest {
         low.servant(0, 9, 59);
         low.hear(0, 1, 1);
         CHECK.due("next, the greater below 0", low.next(0), 1);
+    }
+
+    /** Servant 0 is held for 5 and offered 29, servant 1 held for 6 and offered the middle of 51 and its least. */
+    private static int nextOfFiveAndSix(int least) {
+        HiringFairs x = new HiringFairs();
+        x.master(0, 60);
+        x.servant(0, 1, 10);
+        x.servant(0, 1, least);
+        x.hear(0, 1, 6);
+        return x.next(0);
     }
 
     /** Servants 0 and 1 (ploughs) and 2 (dairy); masters 0 and 1 want ploughs. */
