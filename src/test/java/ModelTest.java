@@ -1,7 +1,4 @@
-import java.lang.reflect.Method;
 import java.util.Arrays;
-import java.util.HashMap;
-import java.util.Map;
 import java.util.Random;
 
 /**
@@ -23,10 +20,8 @@ public final class ModelTest {
         "run 1 2 person", "send 1 3 person", "due 1 6 person day", "owes 1 4 person day", "hands 1 4 kind day",
         "total 3 3 what",
     };
-    private static final Map<String, Method> OF_CLASS = methodsOf(HiringFairs.class);
-    private static final Map<String, Method> OF_MODEL = methodsOf(Model.class);
 
-    public static void main(String[] args) throws ReflectiveOperationException {
+    public static void main(String[] args) {
         CHECK.due("calls in the table", CALL_TABLE.length, 26);
         for (int seed = 1; seed <= RUNS && !CHECK.tooManyWrong(); seed++) {
             randomRun(seed);
@@ -34,7 +29,7 @@ public final class ModelTest {
         CHECK.end();
     }
 
-    private static void randomRun(int seed) throws ReflectiveOperationException {
+    private static void randomRun(int seed) {
         Random random = new Random(seed);
         HiringFairs x = new HiringFairs();
         Model model = new Model();
@@ -98,7 +93,7 @@ public final class ModelTest {
         }
     }
 
-    private static void lookAtAll(int seed, HiringFairs x, Model model) throws ReflectiveOperationException {
+    private static void lookAtAll(int seed, HiringFairs x, Model model) {
         for (int what = 0; what <= 6; what++) {
             same(seed, x, model, "total", what);
         }
@@ -118,20 +113,9 @@ public final class ModelTest {
         }
     }
 
-    private static void same(int seed, HiringFairs x, Model model, String name, Object... arguments)
-            throws ReflectiveOperationException {
-        int got = (Integer) OF_CLASS.get(name).invoke(x, arguments);
-        int want = (Integer) OF_MODEL.get(name).invoke(model, arguments);
+    private static void same(int seed, HiringFairs x, Model model, String name, Object... arguments) {
+        int got = Calls.call(x, name, arguments);
+        int want = Calls.call(model, name, arguments);
         CHECK.due("seed " + seed + ": " + name + Arrays.toString(arguments), got, want);
-    }
-
-    private static Map<String, Method> methodsOf(Class<?> type) {
-        Map<String, Method> methods = new HashMap<>();
-        for (Method method : type.getDeclaredMethods()) {
-            if (method.getReturnType() == int.class) {
-                methods.put(method.getName(), method);
-            }
-        }
-        return methods;
     }
 }
