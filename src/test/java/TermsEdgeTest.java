@@ -136,6 +136,13 @@ public final class TermsEdgeTest {
         RUNS.sentence("in each MINUTE one SERVANT", "x3 servant(0, 5, 10); x2 master(0, 60)", "go(1)",
                 "bargains() = 2", "bargain(1, 4) = 0", "go(1)", "bargains() = 3", "bargain(2, 2) = 1", "go(1)",
                 "bargains() = 3");
+        RUNS.sentence("in each MINUTE, though in one nobody took it", "x3 servant(0, 5, 10); x3 master(0, 60); go(3)",
+                "servant(0, 5, 10); x2 master(0, 60); hear(3, 3, 9)", "hear(4, 3, 1); go(100) = 103", "bargains() = 11",
+                "bargain(6, 0) = 3", "bargain(6, 4) = 1", "bargain(7, 4) = 0", "bargain(8, 0) = 4", "bargain(8, 4) = 0",
+                "bargain(9, 0) = 5", "bargain(10, 0) = 6", "bargain(10, 2) = 3", "house(4, 3) = 4");
+        RUNS.sentence("in each MINUTE, though in one all took it", ONE_BETWEEN_TWO, "bar(0, 1, true); go(1)",
+                "servant(0, 5, 12); bar(0, 1, false); hear(1, 0, 9); go(100) = 101", "bargains() = 3",
+                "bargain(1, 0) = 1", "bargain(1, 4) = 2", "bargain(2, 0) = 2", "bargain(2, 1) = 0", "bargain(2, 2) = 1");
         RUNS.sentence("of like ones the lesser", "x10 servant(0, 5, 10); master(0, 60)", "next(0) = 0", "bar(0, 0, true)",
                 "next(0) = 1", "bar(0, 0, false)", "go(1)", "bargain(0, 2) = 0");
         RUNS.sentence("of those to whom it makes an OFFER: none",
