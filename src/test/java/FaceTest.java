@@ -101,7 +101,14 @@ public final class FaceTest {
             CHECK.holds(type + " is not public, not protected",
                     !Modifier.isPublic(modifiers) && !Modifier.isProtected(modifiers));
             fields(type);
+            for (Method method : type.getDeclaredMethods()) {
+                CHECK.holds(method + " bears no public one's name", !isOfTheFace(method.getName()));
+            }
         }
+    }
+
+    private static boolean isOfTheFace(String name) {
+        return Arrays.stream(METHODS).anyMatch(told -> told.startsWith("int " + name + "("));
     }
 
     private static void fields(Class<?> type) {
@@ -127,5 +134,27 @@ public final class FaceTest {
             CHECK.holds("the code is without " + forbidden, !Pattern.compile(forbidden).matcher(code).find());
         }
         CHECK.holds("characters 0 to 255 alone", text.chars().allMatch(c -> c <= 255));
+        methodLengths(text);
+    }
+
+    /** By the indentation: a method's head ends in ") {", and its end stands as far in as its head. */
+    private static void methodLengths(String text) {
+        String[] lines = text.split("\n");
+        Pattern head = Pattern.compile("( {4}| {8})[A-Za-z][\\w\\[\\] ]*\\([^()]*\\) \\{");
+        Pattern statement = Pattern.compile(" *(if|for|while|switch|else)\\b.*");
+        int methods = 0;
+        for (int i = 0; i < lines.length; i++) {
+            if (!head.matcher(lines[i]).matches() || statement.matcher(lines[i]).matches()) {
+                continue;
+            }
+            String end = lines[i].replaceAll("\\S.*", "") + "}";
+            int last = i;
+            while (last < lines.length && !lines[last].equals(end)) {
+                last++;
+            }
+            methods++;
+            CHECK.holds("sixty lines at most: " + lines[i].trim(), last - i < 60);
+        }
+        CHECK.holds("the methods are found: " + methods, methods > METHODS.length);
     }
 }

@@ -9,6 +9,7 @@ public final class ModelTest {
     private static final Check CHECK = new Check("ModelTest");
     private static final int RUNS = 400;
     private static final int CALLS = 512;
+    private static int callsOfRun = 0;
 
     /** A call, how often it comes up in the fair and in the year, and what its arguments are. */
     private static final String[] CALL_TABLE = {
@@ -30,6 +31,7 @@ public final class ModelTest {
     }
 
     private static void randomRun(int seed) {
+        callsOfRun = 0;
         Random random = new Random(seed);
         HiringFairs x = new HiringFairs();
         Model model = new Model();
@@ -41,10 +43,12 @@ public final class ModelTest {
             same(seed, x, model, "master", kind, 20 + random.nextInt(71));
         }
         for (int call = 2 * people; call < CALLS - 120; call++) {
-            String[] row = drawRow(random, x.total(4) != HiringFairs.NONE);
+            // The model is asked, not the class: of that nothing is promised behind its 512th call.
+            String[] row = drawRow(random, model.total(4) != HiringFairs.NONE);
             same(seed, x, model, row[0], drawArguments(random, row, people));
         }
         lookAtAll(seed, x, model);
+        CHECK.holds("seed " + seed + ": 512 calls at most, of " + callsOfRun, callsOfRun <= CALLS);
     }
 
     private static String[] drawRow(Random random, boolean inYear) {
@@ -114,6 +118,7 @@ public final class ModelTest {
     }
 
     private static void same(int seed, HiringFairs x, Model model, String name, Object... arguments) {
+        callsOfRun++;
         int got = Calls.call(x, name, arguments);
         int want = Calls.call(model, name, arguments);
         CHECK.due("seed " + seed + ": " + name + Arrays.toString(arguments), got, want);
